@@ -920,7 +920,8 @@ public final class CometObservatory {
             }
             int factor = factorOfDivisor(one.period, other.period);
             int turns = Math.floorMod(Math.floorMod(distance / divisor, cycle) * Math.floorMod(factor, cycle), cycle);
-            return notBefore(Math.max(one.nextDay, other.nextDay), one.nextDay + turns * one.period, cycle * one.period);
+            int earliest = Math.max(one.nextDay, other.nextDay);
+            return notBefore(earliest, one.nextDay + turns * one.period, cycle * one.period);
         }
 
         /** The first day from earliest on that lies a multiple of the interval away from the given one. */
