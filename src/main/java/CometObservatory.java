@@ -61,19 +61,14 @@ public final class CometObservatory {
     }
 
     public int remove(int comet) throws NoSuchElementException {
-        if (sky.slotOf(comet) == NONE) {
-            throw new NoSuchElementException("no such comet");
-        }
+        Comet found = existing(comet);
         history.push(sky);
-        sky.sell(comet);
+        sky.sell(found.id);
         return sky.coins;
     }
 
     public int setPeriod(int comet, int period) throws NoSuchElementException, IllegalArgumentException {
-        Comet found = sky.find(comet);
-        if (found == null) {
-            throw new NoSuchElementException("no such comet");
-        }
+        Comet found = existing(comet);
         if (!isPeriod(period)) {
             throw new IllegalArgumentException("period out of range");
         }
@@ -85,10 +80,7 @@ public final class CometObservatory {
 
     public int brighten(int comet, int amount) throws NoSuchElementException, IllegalArgumentException,
             IllegalStateException, UnsupportedOperationException {
-        Comet found = sky.find(comet);
-        if (found == null) {
-            throw new NoSuchElementException("no such comet");
-        }
+        Comet found = existing(comet);
         if (!isAmount(amount)) {
             throw new IllegalArgumentException("amount out of range");
         }
@@ -154,50 +146,27 @@ public final class CometObservatory {
     }
 
     public int period(int comet) throws NoSuchElementException {
-        Comet found = sky.find(comet);
-        if (found == null) {
-            throw new NoSuchElementException("no such comet");
-        }
-        return found.period;
+        return existing(comet).period;
     }
 
     public int brightness(int comet) throws NoSuchElementException {
-        Comet found = sky.find(comet);
-        if (found == null) {
-            throw new NoSuchElementException("no such comet");
-        }
-        return found.brightness;
+        return existing(comet).brightness;
     }
 
     public int tail(int comet) throws NoSuchElementException {
-        Comet found = sky.find(comet);
-        if (found == null) {
-            throw new NoSuchElementException("no such comet");
-        }
-        return tailAt(found.brightness);
+        return tailAt(existing(comet).brightness);
     }
 
     public int nextPass(int comet) throws NoSuchElementException {
-        Comet found = sky.find(comet);
-        if (found == null) {
-            throw new NoSuchElementException("no such comet");
-        }
-        return found.nextDay;
+        return existing(comet).nextDay;
     }
 
     public int passesOf(int comet) throws NoSuchElementException {
-        Comet found = sky.find(comet);
-        if (found == null) {
-            throw new NoSuchElementException("no such comet");
-        }
-        return found.passes;
+        return existing(comet).passes;
     }
 
     public int lastPass(int comet) throws NoSuchElementException {
-        Comet found = sky.find(comet);
-        if (found == null) {
-            throw new NoSuchElementException("no such comet");
-        }
+        Comet found = existing(comet);
         return found.nextDay + (found.brightness - 1) * found.period;
     }
 
@@ -219,11 +188,8 @@ public final class CometObservatory {
 
     public int nextMeeting(int one, int other)
             throws NoSuchElementException, IllegalArgumentException, UnsupportedOperationException {
-        Comet first = sky.find(one);
-        Comet second = sky.find(other);
-        if (first == null || second == null) {
-            throw new NoSuchElementException("no such comet");
-        }
+        Comet first = existing(one);
+        Comet second = existing(other);
         if (one == other) {
             throw new IllegalArgumentException("both ids are the same");
         }
@@ -236,11 +202,8 @@ public final class CometObservatory {
 
     public int nextMeetingByRemainders(int one, int other)
             throws NoSuchElementException, IllegalArgumentException, UnsupportedOperationException {
-        Comet first = sky.find(one);
-        Comet second = sky.find(other);
-        if (first == null || second == null) {
-            throw new NoSuchElementException("no such comet");
-        }
+        Comet first = existing(one);
+        Comet second = existing(other);
         if (one == other) {
             throw new IllegalArgumentException("both ids are the same");
         }
@@ -426,10 +389,7 @@ public final class CometObservatory {
     // ---- output
 
     public int writeComet(int comet) throws NoSuchElementException {
-        Comet found = sky.find(comet);
-        if (found == null) {
-            throw new NoSuchElementException("no such comet");
-        }
+        Comet found = existing(comet);
         line.setLength(0);
         line.append(found.id).append('*').append(found.brightness);
         line.append('/').append(found.period).append('@').append(found.nextDay);
@@ -478,6 +438,15 @@ public final class CometObservatory {
     }
 
     // ---- what the methods above share
+
+    /** For the methods whose first exception is that there is no such comet. */
+    private Comet existing(int comet) throws NoSuchElementException {
+        Comet found = sky.find(comet);
+        if (found == null) {
+            throw new NoSuchElementException("no such comet");
+        }
+        return found;
+    }
 
     /**
      * Carries out one command of a program and tells whether it could. It asks the same questions as

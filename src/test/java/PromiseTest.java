@@ -208,11 +208,12 @@ public final class PromiseTest {
         int comet = x.cometAt(0);
         due("brighten by 19", x.brighten(comet, 19), 20);
         due("coins()", x.coins(), 6);
-        x.remove(comet);
-        comet = x.addComet(2, 60, 1);
-        int last = comet;
-        due("all coins but two", x.brighten(last, 8), 9);
-        due("coins()", x.coins(), 2);
+        x.setRate(3);
+        x.clean(0, 1);
+        x.addComet(2, 60, 1);
+        due("the last coins", x.brighten(x.cometAt(1), 1), 2);
+        due("coins()", x.coins(), 0);
+        throwing(UNSUPPORTED, () -> x.brighten(x.cometAt(1), 1));
     }
 
     void promise6() {
@@ -584,6 +585,10 @@ public final class PromiseTest {
         fresh();
         x.addComet(2, 1, 20);
         due("60 days", plan.of(60), 20 + 17 + 15 + 13 + 11 + 9 + 8 + 7 + 6 + 5 + 4 + 3 + 2 + 1);
+        for (int i = 1; i < 6; i++) {
+            x.addComet(2, 1, 20);
+        }
+        due("as many passes as there can be", plan.of(60), 121);
         fresh();
         for (int i = 0; i < 6; i++) {
             x.addComet(2, 60 - i % 2, 4);
@@ -598,17 +603,33 @@ public final class PromiseTest {
         due("3 days", plan.of(3), 9);
     }
 
+    /** Many passes at once, against the plain reference: its best worth, or its fewest passes. */
+    private void manyPasses(Plan plan, boolean isWorth) {
+        for (int kind = 0; kind < 120; kind++) {
+            fresh();
+            Reference reference = new Reference();
+            for (int i = 0; i < 6; i++) {
+                int period = 2 + kind % 7 * (i + kind) % 9;
+                int delay = 1 + (i * kind + i) % 13;
+                int brightness = 1 + (kind + i * (kind % 5)) % 20;
+                x.addComet(period, delay, brightness);
+                reference.call("comet", period, delay, brightness);
+            }
+            for (int days = 0; days <= 60; days += 1 + kind % 6) {
+                int want = isWorth ? reference.bestWorth(days) : reference.fewestPasses(days);
+                due("kind " + kind + ", " + days + " days", plan.of(days), want);
+            }
+        }
+    }
+
     void promise23() {
         worths(days -> x.bestWorth(days));
+        manyPasses(days -> x.bestWorth(days), true);
     }
 
     void promise24() {
         worths(days -> x.bestWorthByDays(days));
-        fresh();
-        for (int i = 0; i < 6; i++) {
-            x.addComet(2, 1 + i, 20);
-            due("both ways", x.bestWorthByDays(60), x.bestWorth(60));
-        }
+        manyPasses(days -> x.bestWorthByDays(days), true);
     }
 
     void promise25() {
@@ -630,6 +651,7 @@ public final class PromiseTest {
         x.addComet(60, 3, 1);
         due("3 days", x.fewestPasses(3), 2);
         due("3 days", x.bestWorth(3), 9);
+        manyPasses(days -> x.fewestPasses(days), false);
     }
 
     void promise26() {
@@ -925,12 +947,18 @@ public final class PromiseTest {
         errorAt("comet 1 2 3 ", 11);
         errorAt("turn 1;", 6);
         errorAt("vac 1 1 1", 7);
+        errorAt("turn 1", 6);
+        errorAt("day 1day 1", 5);
+        errorAt("turn 123", 7);
+        errorAt("turn 1234 5", 7);
+        errorAt("comet 112233", 8);
         errorAt("Day 1", 0);
         errorAt("day\u01201", 3);
         errorAt("day \u0661", 4);
         errorAt("comets 1 2 3", 5);
         errorAt("day 1;day 1;day 1;day 1;day 1;day 1;day 1;day 1;day 1;day 1;", 60);
         errorAt("day 1;day 1;day 1;day 1;day 1;day 1;day 1;day 1;day 1;shine ", 60);
+        errorAt("day 1;day 1;day 1;day 1;day 1;day 1;day 1;day 1;day 1;turn 1", 60);
         due("state", state(), before);
     }
 
