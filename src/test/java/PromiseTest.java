@@ -1,109 +1,18 @@
 import java.lang.reflect.Method;
-import java.util.NoSuchElementException;
 
 /** Each promise of the document by its number: ordinary inputs, edges, and wrong inputs. */
-public final class PromiseTest {
+public final class PromiseTest extends Bench {
     private static final int PROMISES = 51;
-    private static final Class<?> ARGUMENT = IllegalArgumentException.class;
-    private static final Class<?> STATE = IllegalStateException.class;
-    private static final Class<?> INDEX = IndexOutOfBoundsException.class;
-    private static final Class<?> ELEMENT = NoSuchElementException.class;
-    private static final Class<?> UNSUPPORTED = UnsupportedOperationException.class;
-    private static final Class<?> ARITHMETIC = ArithmeticException.class;
-    private static final int[] FAR = {Integer.MIN_VALUE, Integer.MAX_VALUE, -1, 1 << 30};
-
-    private final Check check = new Check();
-    private CometObservatory x;
-    private String promise;
 
     public static void main(String[] args) throws Exception {
         PromiseTest test = new PromiseTest();
         for (int number = 1; number <= PROMISES; number++) {
-            test.promise = "promise " + number + ": ";
-            test.x = new CometObservatory();
+            test.where = "promise " + number + ": ";
+            test.fresh();
             Method method = PromiseTest.class.getDeclaredMethod("promise" + number);
             method.invoke(test);
         }
         test.check.end("PromiseTest");
-    }
-
-    private void due(String what, Object got, Object want) {
-        check.due(promise + what, got, want);
-    }
-
-    private void throwing(Class<?> want, Check.Call call) {
-        check.throwing(promise + "what is thrown", want, call);
-    }
-
-    private void fresh() {
-        x = new CometObservatory();
-    }
-
-    /** Lets one comet that burns out at once drop dust of 1 on each of the places. */
-    private void dustOn(int... places) {
-        for (int place : places) {
-            int delay = Math.floorMod(place - x.day() - 1, 12) + 1;
-            x.addComet(60, delay, 1);
-            x.passDays(delay);
-        }
-    }
-
-    /** Brings coins: a comet of brightness 20 is added and removed again and again. */
-    private void earn(int times) {
-        for (int i = 0; i < times; i++) {
-            x.remove(x.addComet(2, 60, 20));
-        }
-    }
-
-    private void type(String text) {
-        for (int i = 0; i < text.length(); i++) {
-            x.append(text.charAt(i));
-        }
-    }
-
-    private int run(String text) {
-        type(text);
-        return x.run();
-    }
-
-    private void errorAt(String text, int position) {
-        throwing(ARGUMENT, () -> run(text));
-        due("errorPosition() of '" + text + "'", x.errorPosition(), position);
-        due("a character after '" + text + "'", x.append('x'), 1);
-        throwing(ARGUMENT, () -> x.run());
-    }
-
-    private void failsAt(String text, int command) {
-        String before = state();
-        throwing(UNSUPPORTED, () -> run(text));
-        due("failedCommand() of '" + text + "'", x.failedCommand(), command);
-        due("state after '" + text + "'", state(), before);
-    }
-
-    private String output(int length) {
-        StringBuilder output = new StringBuilder();
-        for (int i = 0; i < length; i++) {
-            output.append(x.outputAt(i));
-        }
-        return output.toString();
-    }
-
-    /** All that the queries tell, without the output line. */
-    private String state() {
-        StringBuilder state = new StringBuilder();
-        state.append(x.day()).append(' ').append(x.coins()).append(' ').append(x.rate());
-        state.append(' ').append(x.passTotal()).append(' ').append(x.burntTotal());
-        state.append(' ').append(x.dustByAccounts()).append(':');
-        for (int place = 0; place < 12; place++) {
-            state.append(' ').append(x.dust(place));
-        }
-        for (int position = 0; position < x.cometCount(); position++) {
-            int comet = x.cometAt(position);
-            state.append(" #").append(comet).append(' ').append(x.period(comet));
-            state.append(' ').append(x.brightness(comet)).append(' ').append(x.nextPass(comet));
-            state.append(' ').append(x.passesOf(comet));
-        }
-        return state.toString();
     }
 
     void promise1() {
@@ -339,18 +248,18 @@ public final class PromiseTest {
     }
 
     /** Asks one query for a comet that is gone, for one not yet there, and for far ids. */
-    private void noSuchComet(java.util.function.IntUnaryOperator query) {
-        throwing(ELEMENT, () -> query.applyAsInt(0));
+    private void noSuchComet(OfOne query) {
+        throwing(ELEMENT, () -> query.of(0));
         x.remove(x.addComet(2, 1, 1));
-        throwing(ELEMENT, () -> query.applyAsInt(0));
-        throwing(ELEMENT, () -> query.applyAsInt(1));
+        throwing(ELEMENT, () -> query.of(0));
+        throwing(ELEMENT, () -> query.of(1));
         for (int far : FAR) {
-            throwing(ELEMENT, () -> query.applyAsInt(far));
+            throwing(ELEMENT, () -> query.of(far));
         }
         fresh();
         x.addComet(2, 1, 1);
         x.passDays(1);
-        throwing(ELEMENT, () -> query.applyAsInt(0));
+        throwing(ELEMENT, () -> query.of(0));
         fresh();
     }
 
@@ -470,11 +379,7 @@ public final class PromiseTest {
         due("day()", x.day(), 3);
     }
 
-    private interface Meeting {
-        int of(int one, int other);
-    }
-
-    private void meetings(Meeting meeting) {
+    private void meetings(OfTwo meeting) {
         throwing(ELEMENT, () -> meeting.of(0, 0));
         x.addComet(6, 4, 1);
         x.addComet(4, 2, 1);
@@ -510,7 +415,7 @@ public final class PromiseTest {
     }
 
     /** Small periods and delays of all kinds, against looking at each day. */
-    private void everyMeeting(Meeting meeting) {
+    private void everyMeeting(OfTwo meeting) {
         for (int one = 2; one <= 9; one++) {
             for (int other = 2; other <= 9; other++) {
                 for (int delay = 1; delay <= 30; delay += 3) {
@@ -553,11 +458,7 @@ public final class PromiseTest {
         due("alignment()", x.alignment() > Integer.MAX_VALUE, true);
     }
 
-    private interface Plan {
-        int of(int days);
-    }
-
-    private void wrongDays(Plan plan) {
+    private void wrongDays(OfOne plan) {
         throwing(ARGUMENT, () -> plan.of(61));
         for (int far : FAR) {
             throwing(ARGUMENT, () -> plan.of(far));
@@ -566,7 +467,7 @@ public final class PromiseTest {
         due("no days", plan.of(0), 0);
     }
 
-    private void worths(Plan plan) {
+    private void worths(OfOne plan) {
         wrongDays(plan);
         x.addComet(6, 4, 10);
         x.addComet(4, 2, 3);
@@ -604,7 +505,7 @@ public final class PromiseTest {
     }
 
     /** Many passes at once, against the plain reference: its best worth, or its fewest passes. */
-    private void manyPasses(Plan plan, boolean isWorth) {
+    private void manyPasses(OfOne plan, boolean isWorth) {
         for (int kind = 0; kind < 120; kind++) {
             fresh();
             Reference reference = new Reference();
@@ -691,15 +592,6 @@ public final class PromiseTest {
         due("coins()", x.coins(), 20);
     }
 
-    /** What is due: the gain, the start and the places of the best arc. */
-    private void bestArc(int gain, int start, int places) {
-        due("bestGain()", x.bestGain(), gain);
-        due("bestGainByArcs()", x.bestGainByArcs(), gain);
-        due("bestStart()", x.bestStart(), start);
-        due("bestPlaces()", x.bestPlaces(), places);
-        due("the gain of the best arc", x.gain(start, places), gain);
-    }
-
     private void bestArcs() {
         bestArc(-2, 0, 1);
         x.setRate(0);
@@ -780,7 +672,7 @@ public final class PromiseTest {
         due("rate()", x.rate(), 9);
     }
 
-    private void dustTotals(Plan total) {
+    private void dustTotals(OfOne total) {
         due("no dust", total.of(0), 0);
         x.addComet(11, 1, 20);
         x.passDays(34);
@@ -890,76 +782,91 @@ public final class PromiseTest {
         due("undo()", x.undo(), 1);
         due("state", state(), "0 20 2 0 0 0: 0 0 0 0 0 0 0 0 0 0 0 0 #0 6 10 4 0");
         failsAt("day 1;day 60;rate 9;day 0", 3);
-        failsAt("comet 2 1 1;day 1;drop 1", 2);
         failsAt("comet 1 1 1", 0);
-        x.addComet(2, 60, 20);
-        failsAt("comet 2 1 1;comet 2 1 1;comet 2 1 1;comet 2 1 1;comet 2 1 1", 4);
-        x.undo();
-        failsAt("turn 0 1", 0);
-        failsAt("turn 9 2", 0);
-        failsAt("turn 0 2;turn 0 61", 1);
-        failsAt("shine 9 1", 0);
-        failsAt("shine 0 0", 0);
-        failsAt("shine 0 11", 0);
-        failsAt("shine 0 7", 0);
-        failsAt("shine 0 6;shine 0 1", 1);
-        failsAt("shine 0 20", 0);
-        failsAt("vac 12 1", 0);
-        failsAt("vac 0 0", 0);
-        failsAt("vac 0 13", 0);
-        failsAt("vac 0 11", 0);
-        failsAt("day 61", 0);
-        failsAt("drop 0;drop 0", 1);
         due("undo()", x.undo(), 0);
-        failsAt("drop 99", 0);
         due("run() of ten commands", run("day 1;day 1;day 1;day 1;day 1;day 1;day 1;day 1;day 1;rate 5"), 10);
         due("day()", x.day(), 9);
         due("undo()", x.undo(), 0);
         due("day()", x.day(), 0);
+        failingCommands();
         wrongTexts();
     }
 
+    private void failingCommands() {
+        failing("comet 2 1 1;comet 2 1 1;comet 2 1 1;comet 2 1 1;comet 2 1 1", 4);
+        failing("comet 2 1 1;day 1;drop 2", 2);
+        failing("turn 0 1", 0);
+        failing("turn 9 2", 0);
+        failing("turn 0 2;turn 0 61", 1);
+        failing("shine 9 1", 0);
+        failing("shine 0 0", 0);
+        failing("shine 0 11", 0);
+        failing("shine 0 7", 0);
+        failing("shine 0 6;shine 0 1", 1);
+        failing("shine 0 20", 0);
+        failing("vac 12 1", 0);
+        failing("vac 0 0", 0);
+        failing("vac 0 13", 0);
+        failing("vac 0 11", 0);
+        failing("day 61", 0);
+        failing("drop 0;drop 0", 1);
+        failing("drop 99", 0);
+    }
+
+    private void failing(String text, int command) {
+        fresh();
+        x.addComet(6, 4, 10);
+        x.addComet(2, 60, 20);
+        failsAt(text, command);
+        due("undo()", x.undo(), 1);
+    }
+
     private void wrongTexts() {
+        wrongText("", 0);
+        wrongText(";", 0);
+        wrongText("x", 0);
+        wrongText("d", 1);
+        wrongText("dx", 1);
+        wrongText("drx", 2);
+        wrongText("dax", 2);
+        wrongText("da", 2);
+        wrongText("day", 3);
+        wrongText("day ", 4);
+        wrongText("day  1", 4);
+        wrongText("day 123", 6);
+        wrongText("day 12 ", 6);
+        wrongText("day 1,day 1", 5);
+        wrongText("day 1; day 1", 6);
+        wrongText("day 1;", 6);
+        wrongText("day 1;d", 7);
+        wrongText("day -1", 4);
+        wrongText("rate 10", 6);
+        wrongText("rate ", 5);
+        wrongText("comet 1 2", 9);
+        wrongText("comet 1 2;", 9);
+        wrongText("comet 10 20 ", 12);
+        wrongText("comet 1 2 3 ", 11);
+        wrongText("turn 1;", 6);
+        wrongText("vac 1 1 1", 7);
+        wrongText("turn 1", 6);
+        wrongText("day 1day 1", 5);
+        wrongText("turn 123", 7);
+        wrongText("turn 1234 5", 7);
+        wrongText("comet 112233", 8);
+        wrongText("Day 1", 0);
+        wrongText("day\u01201", 3);
+        wrongText("day \u0661", 4);
+        wrongText("comets 1 2 3", 5);
+        wrongText("day 1;day 1;day 1;day 1;day 1;day 1;day 1;day 1;day 1;day 1;", 60);
+        wrongText("day 1;day 1;day 1;day 1;day 1;day 1;day 1;day 1;day 1;shine ", 60);
+        wrongText("day 1;day 1;day 1;day 1;day 1;day 1;day 1;day 1;day 1;turn 1", 60);
+    }
+
+    private void wrongText(String text, int position) {
+        fresh();
         String before = state();
-        errorAt("", 0);
-        errorAt(";", 0);
-        errorAt("x", 0);
-        errorAt("d", 1);
-        errorAt("dx", 1);
-        errorAt("drx", 2);
-        errorAt("dax", 2);
-        errorAt("da", 2);
-        errorAt("day", 3);
-        errorAt("day ", 4);
-        errorAt("day  1", 4);
-        errorAt("day 123", 6);
-        errorAt("day 12 ", 6);
-        errorAt("day 1,day 1", 5);
-        errorAt("day 1; day 1", 6);
-        errorAt("day 1;", 6);
-        errorAt("day 1;d", 7);
-        errorAt("day -1", 4);
-        errorAt("rate 10", 6);
-        errorAt("rate ", 5);
-        errorAt("comet 1 2", 9);
-        errorAt("comet 1 2;", 9);
-        errorAt("comet 10 20 ", 12);
-        errorAt("comet 1 2 3 ", 11);
-        errorAt("turn 1;", 6);
-        errorAt("vac 1 1 1", 7);
-        errorAt("turn 1", 6);
-        errorAt("day 1day 1", 5);
-        errorAt("turn 123", 7);
-        errorAt("turn 1234 5", 7);
-        errorAt("comet 112233", 8);
-        errorAt("Day 1", 0);
-        errorAt("day\u01201", 3);
-        errorAt("day \u0661", 4);
-        errorAt("comets 1 2 3", 5);
-        errorAt("day 1;day 1;day 1;day 1;day 1;day 1;day 1;day 1;day 1;day 1;", 60);
-        errorAt("day 1;day 1;day 1;day 1;day 1;day 1;day 1;day 1;day 1;shine ", 60);
-        errorAt("day 1;day 1;day 1;day 1;day 1;day 1;day 1;day 1;day 1;turn 1", 60);
-        due("state", state(), before);
+        errorAt(text, position);
+        due("state after '" + text + "'", state(), before);
     }
 
     void promise44() {
@@ -1051,7 +958,7 @@ public final class PromiseTest {
             () -> x.brighten(0, 3), () -> x.clean(4, 1), () -> x.setRate(2), () -> run("rate 7;day 3"),
             () -> x.remove(0), () -> x.passDays(60)};
         for (int i = 0; i < changes.length; i++) {
-            states[i] = state();
+            states[i] = i < 2 ? "" : state();
             changes[i].make();
         }
         throwing(ARGUMENT, () -> x.passDays(0));
@@ -1063,7 +970,7 @@ public final class PromiseTest {
         throwing(STATE, () -> x.undo());
         due("state", state(), states[2]);
         due("the id given again", x.addComet(2, 1, 1), 2);
-        x.undo();
+        fresh();
         x.setRate(5);
         x.setRate(6);
         x.undo();
