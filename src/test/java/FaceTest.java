@@ -12,10 +12,15 @@ import java.util.regex.Pattern;
 
 /** The class has the face of the document, member for member, and nothing else that can be seen. */
 public final class FaceTest {
+    private static final int MOST_CLASSES = 12;
+    private static final int MOST_PARAMETERS = 7;
+    private static final int MOST_FIELDS = 20;
+
     public static void main(String[] args) throws Exception {
         Check check = new Check();
         check.due("the face", faceOfClass(), faceOfDocument(Path.of(args[0])));
         check.due("members that can be seen beside the face", othersThatCanBeSeen(), List.of());
+        check.due("classes inside that break a rule", brokenInside(), List.of());
         check.due("rules of the language that are broken", brokenRules(Files.readString(Path.of(args[1]))), List.of());
         check.end("FaceTest");
     }
@@ -73,6 +78,52 @@ public final class FaceTest {
             }
         }
         return others;
+    }
+
+    /** Rules 1, 2 and 11, as far as reflection tells: no shared names, static classes, few parameters and fields. */
+    private static List<String> brokenInside() {
+        List<String> broken = new ArrayList<>();
+        Set<String> calls = new TreeSet<>();
+        for (Method method : CometObservatory.class.getMethods()) {
+            calls.add(method.getName());
+        }
+        List<Class<?>> classes = new ArrayList<>(List.of(CometObservatory.class.getDeclaredClasses()));
+        if (classes.size() >= MOST_CLASSES) {
+            broken.add(classes.size() + " classes inside");
+        }
+        for (Class<?> inside : classes) {
+            int modifiers = inside.getModifiers();
+            if (!Modifier.isStatic(modifiers) || Modifier.isPublic(modifiers) || Modifier.isProtected(modifiers)) {
+                broken.add(inside.getSimpleName());
+            }
+        }
+        classes.add(CometObservatory.class);
+        for (Class<?> each : classes) {
+            broken.addAll(brokenMembers(each, calls));
+        }
+        return broken;
+    }
+
+    private static List<String> brokenMembers(Class<?> each, Set<String> calls) {
+        List<String> broken = new ArrayList<>();
+        for (Method method : each.getDeclaredMethods()) {
+            boolean isCall = Modifier.isPublic(method.getModifiers());
+            if (!isCall && calls.contains(method.getName()) || method.getParameterCount() > MOST_PARAMETERS) {
+                broken.add(each.getSimpleName() + "." + method.getName());
+            }
+        }
+        int fields = 0;
+        for (var field : each.getDeclaredFields()) {
+            boolean isConstant = Modifier.isStatic(field.getModifiers());
+            fields += isConstant ? 0 : 1;
+            if (isConstant && !Modifier.isFinal(field.getModifiers())) {
+                broken.add(each.getSimpleName() + "." + field.getName());
+            }
+        }
+        if (fields > MOST_FIELDS) {
+            broken.add(each.getSimpleName() + " has " + fields + " fields");
+        }
+        return broken;
     }
 
     /** What can be told from the text alone; the other rules are for a reader. */
